@@ -438,8 +438,8 @@ public final class FlashStore {
 
         /**
          * A codeword turned round stays a codeword. Of three wrong bits on the ring of 31, two stand at most 10
-         * apart, so on the other side at least 20 bits in a row hold no more than one: among any five turns that
-         * follow one another, one brings the 16 data bits into such a row.
+         * apart, so on the other side at least 20 bits in a row hold no more than one. Five turns that follow one
+         * another bring the 16 data bits inside that row, and steps of five meet one of them.
          */
         static int mend(int word) {
             for (int turn = 0; turn < WORD_BITS; turn += TURN_STEP) {

@@ -323,7 +323,8 @@ public final class ModelTest {
             } else {
                 int page = random.nextInt(number % 8 + 1);
                 long content = random.nextLong() << random.nextInt(64);
-                compare(step, "write " + page, () -> written(store, page, content), () -> written(model, page, content));
+                compare(step, "write " + page,
+                    () -> written(store, page, content), () -> written(model, page, content));
             }
         }
 
