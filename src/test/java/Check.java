@@ -96,6 +96,42 @@ final class Check {
         return text.toString();
     }
 
+    /**
+     * A store with these states (as states() tells them), made from outside: the used pages bear the logical
+     * numbers 0, 1, .. in order, each with its place as serial, and all their content is ones.
+     */
+    static FlashStore storeOf(String states) {
+        FlashStore store = new FlashStore();
+        String digits = states.replace("|", "");
+        int logical = 0;
+        for (int place = 0; place < 16; place++) {
+            if (digits.charAt(place) == '1') {
+                forgeTag(store, place, logical, place);
+                logical++;
+            } else if (digits.charAt(place) == '2') {
+                loseTag(store, place);
+            }
+        }
+        store.mount();
+        same("the states made", states(store), states);
+        return store;
+    }
+
+    /** Makes a page that has no wrong bits unreadable. */
+    static void loseContent(FlashStore store, int place) {
+        store.spoil(place / 4, place % 4, 0, 15);
+    }
+
+    /** All that can be seen of a store, to tell that a call changed nothing. It takes 110 calls. */
+    static String picture(FlashStore store) {
+        StringBuilder text = new StringBuilder();
+        for (int at = 0; at < 80; at++) {
+            text.append(store.flash(at / 20, at / 5 % 4, at % 5)).append(' ');
+        }
+        text.append(states(store)).append(" places ").append(places(store)).append(" wear ").append(wears(store));
+        return text.append(" next ").append(store.serial()).append(" mended ").append(store.mended()).toString();
+    }
+
     static void close() {
         System.out.println(compared + " answers compared, " + wrong + " wrong");
         if (wrong != 0) {

@@ -201,29 +201,12 @@ public final class CleanTest {
 
     /** Makes a store with these states from outside and cleans it: the block, or -1. */
     private static int cleanedOf(String states) {
-        FlashStore store = storeOf(states);
+        FlashStore store = Check.storeOf(states);
         try {
             return store.clean();
         } catch (IllegalStateException refused) {
             return -1;
         }
-    }
-
-    private static FlashStore storeOf(String states) {
-        FlashStore store = new FlashStore();
-        String digits = states.replace("|", "");
-        int logical = 0;
-        for (int place = 0; place < 16; place++) {
-            if (digits.charAt(place) == '1') {
-                Check.forgeTag(store, place, logical, place);
-                logical++;
-            } else if (digits.charAt(place) == '2') {
-                Check.loseTag(store, place);
-            }
-        }
-        store.mount();
-        Check.same("the states made", Check.states(store), states);
-        return store;
     }
 
     private static void fillWithTwoUsedPerBlock(FlashStore store) {
